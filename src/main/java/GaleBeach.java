@@ -22,7 +22,6 @@ public final class GaleBeach {
     private final Scroll scroll = new Scroll();
     private final Landings landings = new Landings();
     private final Shore shore = new Shore();
-    private final Shore[] kept = {new Shore(), new Shore()};
     private final Matching matching = new Matching();
     private final Outlook outlook = new Outlook();
     private final Stuffs stuffs = new Stuffs();
@@ -30,7 +29,6 @@ public final class GaleBeach {
     private Beach spareBeach = new Beach();
     private Law laidLaw = new Law();
     private Law spareLaw = new Law();
-    private int keptCount = 0;
 
     public GaleBeach() {
     }
@@ -81,7 +79,6 @@ public final class GaleBeach {
         spareBeach = old;
         landings.forget();
         shore.clear();
-        keptCount = 0;
         return beach.cells;
     }
 
@@ -428,21 +425,17 @@ public final class GaleBeach {
     }
 
     public int keep() {
-        if (keptCount >= MOST_KEPT) {
+        if (shore.kept >= MOST_KEPT) {
             return FULL;
         }
-        kept[keptCount].copyFrom(shore);
-        keptCount++;
-        return keptCount;
+        return shore.addKept();
     }
 
     public int back() {
-        if (keptCount < 1) {
+        if (shore.kept < 1) {
             return NO;
         }
-        keptCount--;
-        shore.copyFrom(kept[keptCount]);
-        return keptCount;
+        return shore.goBack();
     }
 
     public int count(int what) {
@@ -464,7 +457,7 @@ public final class GaleBeach {
             case 7:
                 return scroll.length;
             case 8:
-                return keptCount;
+                return shore.kept;
             default:
                 return BAD;
         }
@@ -820,7 +813,7 @@ public final class GaleBeach {
         }
     }
 
-    /** What was found, reported and numbered: all that is KEPT. */
+    /** What was found, reported and numbered, and what of that is KEPT. */
     private static final class Shore {
         int finds = 0;
         final int[] findKind = new int[MOST_FINDS];
@@ -834,28 +827,33 @@ public final class GaleBeach {
         final boolean[] reportSaw = new boolean[MOST_REPORTS];
         int numbers = 0;
         final int[] numberFound = new int[MOST_NUMBERS];
+        // all rows only grow at their ends, and shrink only to what was KEPT last: how long they were is enough
+        int kept = 0;
+        final int[] keptFinds = new int[MOST_KEPT];
+        final int[] keptReports = new int[MOST_KEPT];
+        final int[] keptNumbers = new int[MOST_KEPT];
 
         void clear() {
             finds = 0;
             reports = 0;
             numbers = 0;
+            kept = 0;
         }
 
-        void copyFrom(Shore other) {
-            finds = other.finds;
-            System.arraycopy(other.findKind, 0, findKind, 0, MOST_FINDS);
-            System.arraycopy(other.findCell, 0, findCell, 0, MOST_FINDS);
-            System.arraycopy(other.findHour, 0, findHour, 0, MOST_FINDS);
-            reports = other.reports;
-            System.arraycopy(other.reportCell, 0, reportCell, 0, MOST_REPORTS);
-            System.arraycopy(other.reportHour, 0, reportHour, 0, MOST_REPORTS);
-            System.arraycopy(other.reportEyes, 0, reportEyes, 0, MOST_REPORTS);
-            System.arraycopy(other.reportKind, 0, reportKind, 0, MOST_REPORTS);
-            for (int i = 0; i < MOST_REPORTS; i++) {
-                reportSaw[i] = other.reportSaw[i];
-            }
-            numbers = other.numbers;
-            System.arraycopy(other.numberFound, 0, numberFound, 0, MOST_NUMBERS);
+        int addKept() {
+            keptFinds[kept] = finds;
+            keptReports[kept] = reports;
+            keptNumbers[kept] = numbers;
+            kept++;
+            return kept;
+        }
+
+        int goBack() {
+            kept--;
+            finds = keptFinds[kept];
+            reports = keptReports[kept];
+            numbers = keptNumbers[kept];
+            return kept;
         }
 
         int addFind(int kind, int cell, int hour) {
@@ -971,7 +969,7 @@ public final class GaleBeach {
         final int[] remaining = new int[MOST_LOSSES];
         final int[][] lying = new int[MOST_LOSSES][MOST_CELLS];
         final long[] stretch = new long[MOST_CELLS];
-        // the greatest sum of HOPES of some walks in the CELLS from one on, NEVER if they have no room
+        // the greatest sum of HOPES of some walks in the CELLS from one on, NEVER if they have no room; of none it stays 0
         final long[][] joined = new long[MOST_WALKS + 1][MOST_CELLS + 1];
 
         void readReports(Beach beach, Shore shore) {
@@ -1042,7 +1040,6 @@ public final class GaleBeach {
 
         /** The greatest sums for up to m walks of n CELLS, from the last CELL to the first. */
         void joinStretches(int cells, int n, int m) {
-            Arrays.fill(joined[0], 0);
             for (int walks = 1; walks <= m && walks <= MOST_WALKS; walks++) {
                 Arrays.fill(joined[walks], NEVER);
                 for (int begin = cells - n; begin >= 0; begin--) {
