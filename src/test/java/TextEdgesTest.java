@@ -252,7 +252,7 @@ final class TextEdgesTest {
 
     /** What an earlier TEXT told is in no later one, however often and whichever way they were read. */
     private static void layingAgainAndAgain() {
-        String most = "n4;" + "t0,-1;".repeat(12) + "w0,9,0;".repeat(12) + KIND.repeat(6) + "l0,5,1,0,0;".repeat(8);
+        String most = "n4;" + "t0,-1;".repeat(12) + "w0,0,-9;".repeat(12) + KIND.repeat(6) + "l0,5,1,0,0;".repeat(8);
         String rules = "k>0&k>0&k>0:C1,1;".repeat(10);
         String[] texts = {most, "k1,1,1,1;l0,5,1,0,0;"};
         String[] laws = {rules, ":O2,2;"};
@@ -280,7 +280,7 @@ final class TextEdgesTest {
                 due("rules", x.call("count", 6), due[which][3]);
                 due("whose", x.call("whose", 0, 0, 0, 0), which == 0 ? 1 : 2);
                 due("tide", x.call("drift", 5, 1, 0, 0, 0), which == 0 ? 0 : NONE);
-                due("wind", x.call("drift", 5, 2, 0, 10, 0), which == 0 ? 2 : NONE);
+                due("wind", x.call("drift", 5, 10, 0, 10, 1), which == 0 ? 1 : NONE);
             }
         }
     }

@@ -14,6 +14,7 @@ final class WalkEdgesTest {
         roomForWalks();
         beyondM();
         walksInAnyOrder();
+        walksBehindGreaterHopes();
         checks.end();
     }
 
@@ -172,10 +173,31 @@ final class WalkEdgesTest {
                 for (int i = 0; i < all; i++) {
                     // 31 has no divisor in common with 15 times up to 16, so that each comes once
                     int which = Math.floorMod(i * step, all);
-                    long[] args = {1 + which / 15, 1 + which / 5 % 3, 60, 9, which % 5 - 1};
+                    // little to hope for behind much, and much behind little
+                    int hour = i % 3 == 0 ? 2 : 60;
+                    int eyes = i % 4 == 0 ? 0 : 9;
+                    long[] args = {1 + which / 15, 1 + which / 5 % 3, hour, eyes, which % 5 - 1};
                     due(Face.described("walks", args), gale.call("walks", args), plain.call("walks", args));
                 }
             }
         }
+    }
+
+    /** What was hoped for at a later HOUR, or on another BEACH, is not in what is asked for then. */
+    private static void walksBehindGreaterHopes() {
+        Face x = Face.galeOf("n6;t0,-1;k0,0,0,9;l0,55,1,4,4;l0,5,1,0,0;");
+        for (int n = 1; n <= 3; n++) {
+            for (int m = 1; n * m <= 6 && m <= 3; m++) {
+                due("by hour 5", x.call("walks", 1, m, 5, 0, -1), m == 1 ? 9000000 : 18000000);
+                due("by hour 1", x.call("walks", n, m, 1, 0, -1), 9000000);
+                due("the first", x.call("walks", n, m, 1, 0, 0), 0);
+                due("the last", x.call("walks", n, m, 1, 0, m - 1), n * (m - 1));
+                due("by hour 0", x.call("walks", n, m, 0, 0, -1), 0);
+            }
+        }
+        x.call("walks", 1, 3, 5, 0, -1);
+        x.lay("n6;k0,0,0,9;", 0);
+        due("no loss any more", x.call("walks", 2, 3, 5, 0, -1), 0);
+        due("the last", x.call("walks", 2, 3, 5, 0, 2), 4);
     }
 }
