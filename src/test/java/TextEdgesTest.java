@@ -19,6 +19,7 @@ final class TextEdgesTest {
         figures();
         letters();
         cutShort();
+        shorterThanBefore();
         oneByteOff(BEACH);
         oneByteOff(LAW);
         howMany();
@@ -180,6 +181,25 @@ final class TextEdgesTest {
                 fault(text, law, begins == length ? NONE : begins);
             }
         }
+    }
+
+    /** What stood in a longer TEXT is not read behind the end of a shorter one. */
+    private static void shorterThanBefore() {
+        for (int law = 0; law < 2; law++) {
+            String whole = law == 0 ? BEACH : LAW;
+            for (int length = 0; length <= whole.length(); length++) {
+                Face x = Face.gale();
+                x.put(whole + whole.substring(0, 6));
+                x.put(whole.substring(0, length));
+                int begins = whole.substring(0, length).lastIndexOf(';') + 1;
+                due("fault of the first " + length, x.call("fault", law), begins == length ? NONE : begins);
+                due("lay of the first " + length, x.call("lay", law) == NO ? 1 : 0, begins == length ? 0 : 1);
+            }
+        }
+        Face x = Face.gale();
+        x.put("n".repeat(397) + "16;");
+        x.put("n3;".repeat(132) + "n");
+        due("cut at 397", x.call("fault", 0), 396);
     }
 
     /** Each byte changed into each other one, taken away, or put in: as the plain reading says. */
