@@ -1,3 +1,4 @@
+import java.lang.reflect.Array;
 import java.lang.reflect.Constructor;
 import java.lang.reflect.Field;
 import java.lang.reflect.Member;
@@ -6,10 +7,12 @@ import java.lang.reflect.Modifier;
 import java.util.ArrayList;
 import java.util.Arrays;
 import java.util.HashSet;
+import java.util.IdentityHashMap;
 import java.util.List;
+import java.util.Map;
 import java.util.Set;
 
-/** The public face is the document's, and nothing else of the class can be seen (LANGUAGE.md, rules 1, 5 and 11). */
+/** The public face is the document's, and nothing else of the class can be seen (LANGUAGE.md, rules 1, 5, 11 and 12). */
 final class FaceTest {
     private static final String[] FACE = {
         "int write(int,long)", "int wipe()", "int fault(boolean)", "int lay(boolean)",
@@ -23,11 +26,12 @@ final class FaceTest {
 
     private static final Checks checks = new Checks("FaceTest");
 
-    public static void main(String[] args) {
+    public static void main(String[] args) throws IllegalAccessException {
         constants();
         methods();
         constructors();
         classesInside();
+        room();
         checks.end();
     }
 
@@ -107,6 +111,36 @@ final class FaceTest {
             }
             checks.holds(inside + " has some twenty fields at most", fields <= 20);
         }
+    }
+
+    /** Even 512 objects in one run fill only half of the room that all its calls have; no call makes more (LanguageTest). */
+    private static void room() throws IllegalAccessException {
+        Map<Object, Boolean> seen = new IdentityHashMap<>();
+        int elements = countRoom(new GaleBeach(), seen);
+        checks.holds(seen.size() + " objects and arrays", 2 * 512 * seen.size() <= 600000);
+        checks.holds(elements + " fields and elements", 2 * 512 * elements <= 7300000);
+    }
+
+    private static int countRoom(Object thing, Map<Object, Boolean> seen) throws IllegalAccessException {
+        if (thing == null || seen.put(thing, true) != null) {
+            return 0;
+        }
+        int many = 0;
+        if (thing.getClass().isArray()) {
+            many = Array.getLength(thing);
+            for (int i = 0; thing instanceof Object[] things && i < things.length; i++) {
+                many += countRoom(things[i], seen);
+            }
+            return many;
+        }
+        for (Field field : thing.getClass().getDeclaredFields()) {
+            if (!isStatic(field)) {
+                many++;
+                field.setAccessible(true);
+                many += field.getType().isPrimitive() ? 0 : countRoom(field.get(thing), seen);
+            }
+        }
+        return many;
     }
 
     private static boolean isStatic(Member member) {
